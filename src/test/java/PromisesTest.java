@@ -194,6 +194,10 @@ public final class PromisesTest {
     Check.same("5 one above", x.protection(0), 1);
     x.protect(0, 0, 100);
     Check.same("5 never below 0", x.protection(0), 0);
+    x.protect(0, 10000000, 1);
+    Check.same("5 percent 1", x.protection(0), 99900);
+    x.protect(0, 10000000, 0);
+    Check.same("5 percent 0", x.protection(0), 0);
   }
 
   private static void protectRefuses() {
