@@ -37,6 +37,15 @@ final class Check {
     }
   }
 
+  static void passes(String what, Act act) {
+    checks++;
+    try {
+      act.go();
+    } catch (RuntimeException thrown) {
+      tell(what + " threw " + thrown.getClass().getName() + ", due is an answer");
+    }
+  }
+
   static void noIndex(String what, Act act) {
     fails(what, IndexOutOfBoundsException.class, act);
   }

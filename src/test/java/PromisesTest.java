@@ -40,18 +40,6 @@ public final class PromisesTest {
     Check.close("PromisesTest");
   }
 
-  private static JointAnnuity with(int start, int amount, int guarantee) {
-    JointAnnuity x = new JointAnnuity();
-    Check.same("add", x.add(start, amount, guarantee), 0);
-    return x;
-  }
-
-  private static void runTo(JointAnnuity x, int month) {
-    for (int left = month - x.month(); left > 0; left--) {
-      x.run();
-    }
-  }
-
   // Promise 1
 
   private static void newObject() {
@@ -77,7 +65,7 @@ public final class PromisesTest {
     Check.badState("2 the 21st", () -> x.add(0, 1, 0));
     Check.badArgument("2 wrong and full", () -> x.add(0, 0, 0));
     Check.same("2 the last one stands", x.fullAmount(19, 19), 119);
-    JointAnnuity y = with(239, 100000, 240);
+    JointAnnuity y = Desks.with(239, 100000, 240);
     Check.same("2 largest", y.entitledUpTo(0, 239), 100000);
     Check.same("2 largest", y.entitledUpTo(0, 238), 0);
     Check.same("2 terms at first: cap", y.add(0, 1000, 0), 1);
@@ -89,7 +77,7 @@ public final class PromisesTest {
     Check.same("2 whole percentage at first", y.entitled(0, 239), 100000);
     y.die(1, 0, 0);
     Check.same("2 no protection at first", y.protection(1), 0);
-    JointAnnuity z = with(0, 1000, 0);
+    JointAnnuity z = Desks.with(0, 1000, 0);
     z.die(0, 0, 0);
     Check.same("2 100 percent at first", z.entitled(0, 1), 1000);
   }
@@ -109,7 +97,7 @@ public final class PromisesTest {
     x.run();
     Check.badArgument("2 start has been run", () -> x.add(1, 1, 0));
     Check.same("2 start is the month that goes on", x.add(2, 1, 0), 1);
-    runTo(x, 240);
+    Desks.runTo(x, 240);
     Check.badArgument("2 behind the last month", () -> x.add(239, 1, 0));
     Check.badArgument("2 behind the last month", () -> x.add(240, 1, 0));
   }
@@ -117,7 +105,7 @@ public final class PromisesTest {
   // Promise 3
 
   private static void setSurvivorSteps() {
-    JointAnnuity x = with(0, 999, 0);
+    JointAnnuity x = Desks.with(0, 999, 0);
     x.setSurvivor(0, 50, true);
     x.die(0, 1, 0);
     Check.same("3 in the month of death", x.entitled(0, 0), 999);
@@ -136,7 +124,7 @@ public final class PromisesTest {
   }
 
   private static void setSurvivorRefuses() {
-    JointAnnuity x = with(1, 1000, 0);
+    JointAnnuity x = Desks.with(1, 1000, 0);
     Check.noIndex("3 before percent", () -> x.setSurvivor(1, 101, true));
     Check.noIndex("3 annuity", () -> x.setSurvivor(-1, 1, true));
     Check.badArgument("3 percent", () -> x.setSurvivor(0, -1, true));
@@ -152,7 +140,7 @@ public final class PromisesTest {
   // Promise 4
 
   private static void setCapHolds() {
-    JointAnnuity x = with(0, 1000, 0);
+    JointAnnuity x = Desks.with(0, 1000, 0);
     x.setInflation(0, 300);
     x.setCap(0, 200);
     Check.same("4 cap 200", x.fullAmount(0, 12), 1200);
@@ -165,7 +153,7 @@ public final class PromisesTest {
   }
 
   private static void setCapRefuses() {
-    JointAnnuity x = with(1, 1000, 0);
+    JointAnnuity x = Desks.with(1, 1000, 0);
     Check.noIndex("4 before cap", () -> x.setCap(1, 201));
     Check.noIndex("4 annuity", () -> x.setCap(-1, 0));
     Check.badArgument("4 cap", () -> x.setCap(0, -1));
@@ -181,7 +169,7 @@ public final class PromisesTest {
   // Promise 5
 
   private static void protectSecures() {
-    JointAnnuity x = with(0, 100, 0);
+    JointAnnuity x = Desks.with(0, 100, 0);
     x.die(0, 0, 0);
     x.die(0, 1, 0);
     x.protect(0, 999, 50);
@@ -201,7 +189,7 @@ public final class PromisesTest {
   }
 
   private static void protectRefuses() {
-    JointAnnuity x = with(1, 1000, 0);
+    JointAnnuity x = Desks.with(1, 1000, 0);
     Check.noIndex("5 before price", () -> x.protect(1, -1, 0));
     Check.noIndex("5 annuity", () -> x.protect(-1, 0, 0));
     Check.badArgument("5 price", () -> x.protect(0, -1, 0));
@@ -230,11 +218,11 @@ public final class PromisesTest {
   }
 
   private static void setInflationReachesBack() {
-    JointAnnuity x = with(0, 1000, 0);
+    JointAnnuity x = Desks.with(0, 1000, 0);
     x.setCap(0, 100);
     x.add(12, 500, 0);
     x.setCap(1, 100);
-    runTo(x, 14);
+    Desks.runTo(x, 14);
     x.setInflation(0, 50);
     Check.same("6 a year that is over", x.fullAmount(0, 12), 1050);
     Check.same("6 what was missing", x.run(), 1050 + 50 + 50 + 500);
@@ -260,8 +248,8 @@ public final class PromisesTest {
   // Promise 7
 
   private static void dieTells() {
-    JointAnnuity x = with(0, 1000, 0);
-    runTo(x, 3);
+    JointAnnuity x = Desks.with(0, 1000, 0);
+    Desks.runTo(x, 3);
     x.die(0, 0, 3);
     Check.same("7 the month that goes on", x.takeBack(0, 0), 3);
     x.die(0, 0, 0);
@@ -269,16 +257,16 @@ public final class PromisesTest {
     Check.same("7 alive in that month", x.entitled(0, 2), 1000);
     Check.same("7 not alive behind it", x.entitled(0, 3), 0);
     x.takeBack(0, 1);
-    runTo(x, 240);
+    Desks.runTo(x, 240);
     x.die(0, 1, 239);
     Check.same("7 at most 239", x.takeBack(0, 1), 239);
-    JointAnnuity y = with(9, 1000, 0);
+    JointAnnuity y = Desks.with(9, 1000, 0);
     y.die(0, 0, 0);
     Check.same("7 ahead of the start", y.takeBack(0, 0), 0);
   }
 
   private static void dieRefuses() {
-    JointAnnuity x = with(0, 1000, 0);
+    JointAnnuity x = Desks.with(0, 1000, 0);
     Check.noIndex("7 annuity first", () -> x.die(1, 2, -1));
     Check.noIndex("7 annuity", () -> x.die(-1, 0, 0));
     Check.badArgument("7 life", () -> x.die(0, -1, 0));
@@ -289,16 +277,16 @@ public final class PromisesTest {
     Check.badState("7 told", () -> x.die(0, 0, 0));
     Check.badArgument("7 month before told", () -> x.die(0, 0, 1));
     Check.same("7 the first stands", x.takeBack(0, 0), 0);
-    runTo(x, 240);
+    Desks.runTo(x, 240);
     Check.badArgument("7 240 is no month", () -> x.die(0, 0, 240));
   }
 
   // Promise 8
 
   private static void takeBackUndoes() {
-    JointAnnuity x = with(0, 1000, 0);
+    JointAnnuity x = Desks.with(0, 1000, 0);
     x.setSurvivor(0, 50, true);
-    runTo(x, 6);
+    Desks.runTo(x, 6);
     x.die(0, 0, 2);
     x.die(0, 1, 4);
     Check.same("8 its month", x.takeBack(0, 0), 2);
@@ -311,7 +299,7 @@ public final class PromisesTest {
   }
 
   private static void takeBackRefuses() {
-    JointAnnuity x = with(0, 1000, 0);
+    JointAnnuity x = Desks.with(0, 1000, 0);
     Check.noIndex("8 annuity first", () -> x.takeBack(1, 2));
     Check.noIndex("8 annuity", () -> x.takeBack(-1, 0));
     Check.badArgument("8 life", () -> x.takeBack(0, -1));
@@ -326,7 +314,7 @@ public final class PromisesTest {
   // Promise 9
 
   private static void runPays() {
-    JointAnnuity x = with(1, 1000, 0);
+    JointAnnuity x = Desks.with(1, 1000, 0);
     x.add(0, 70, 0);
     x.add(2, 5, 0);
     Check.same("9 month 0", x.run(), 70);
@@ -338,9 +326,9 @@ public final class PromisesTest {
   }
 
   private static void runPaysWhatIsMissing() {
-    JointAnnuity x = with(0, 1000, 0);
+    JointAnnuity x = Desks.with(0, 1000, 0);
     x.setSurvivor(0, 40, false);
-    runTo(x, 4);
+    Desks.runTo(x, 4);
     x.die(0, 0, 1);
     Check.same("9 too much was paid", x.owes(0), 1200);
     Check.same("9 set off", x.run(), 0);
@@ -349,12 +337,12 @@ public final class PromisesTest {
     Check.same("9 the rest is set off", x.run(), 300);
     Check.same("9 from here on", x.run(), 400);
     x.takeBack(0, 0);
-    Check.same("9 what was not paid, and what was given back", x.run(), 8 * 1000 - 4000 + 700 - 700);
+    Check.same("9 not paid yet, and what was given back", x.run(), 8000 - 4700 + 700);
     Check.same("9 from here on", x.run(), 1000);
   }
 
   private static void runEnds() {
-    JointAnnuity x = with(239, 100, 0);
+    JointAnnuity x = Desks.with(239, 100, 0);
     for (int i = 0; i < 239; i++) {
       Check.same("9 ahead of the start", x.run(), 0);
     }
@@ -378,8 +366,8 @@ public final class PromisesTest {
   // Promise 11
 
   private static JointAnnuity indebted() {
-    JointAnnuity x = with(0, 1000, 0);
-    runTo(x, 5);
+    JointAnnuity x = Desks.with(0, 1000, 0);
+    Desks.runTo(x, 5);
     x.die(0, 0, 1);
     x.die(0, 1, 2);
     return x;
@@ -410,12 +398,12 @@ public final class PromisesTest {
   // Promise 12
 
   private static void paidTellsEachMonth() {
-    JointAnnuity x = with(2, 1000, 0);
-    runTo(x, 4);
+    JointAnnuity x = Desks.with(2, 1000, 0);
+    Desks.runTo(x, 4);
     x.add(4, 30, 0);
     x.die(0, 0, 3);
     x.die(0, 1, 2);
-    runTo(x, 6);
+    Desks.runTo(x, 6);
     x.takeBack(0, 0);
     x.run();
     Check.same("12 ahead of the start", x.paid(0, 1), 0);
@@ -431,7 +419,7 @@ public final class PromisesTest {
   }
 
   private static void paidRefuses() {
-    JointAnnuity x = with(0, 1000, 0);
+    JointAnnuity x = Desks.with(0, 1000, 0);
     Check.badArgument("12 no month has been run", () -> x.paid(0, 0));
     Check.noIndex("12 annuity first", () -> x.paid(1, -1));
     Check.noIndex("12 annuity", () -> x.paid(-1, 0));
@@ -439,7 +427,7 @@ public final class PromisesTest {
     Check.badArgument("12 month", () -> x.paid(0, -1));
     Check.badArgument("12 the month that goes on", () -> x.paid(0, 1));
     Check.same("12 the month run", x.paid(0, 0), 1000);
-    runTo(x, 240);
+    Desks.runTo(x, 240);
     Check.same("12 the last month", x.paid(0, 239), 1000);
     Check.badArgument("12 behind all", () -> x.paid(0, 240));
   }
@@ -463,10 +451,10 @@ public final class PromisesTest {
   // Promise 14
 
   private static void owesWhatWasTooMuch() {
-    JointAnnuity x = with(0, 1000, 0);
+    JointAnnuity x = Desks.with(0, 1000, 0);
     x.setSurvivor(0, 50, false);
     Check.same("14 nothing at first", x.owes(0), 0);
-    runTo(x, 3);
+    Desks.runTo(x, 3);
     Check.same("14 nothing", x.owes(0), 0);
     x.die(0, 0, 0);
     Check.same("14 too much", x.owes(0), 1000);
@@ -476,7 +464,7 @@ public final class PromisesTest {
     Check.same("14 no step on life 1", x.owes(0), 0);
     x.die(0, 0, 1);
     Check.same("14 both", x.owes(0), 1000);
-    runTo(x, 240);
+    Desks.runTo(x, 240);
     Check.same("14 behind all months", x.owes(0), 1000);
     x.takeBack(0, 0);
     Check.same("14 never below 0", x.owes(0), 0);
@@ -487,7 +475,7 @@ public final class PromisesTest {
   // Promise 15
 
   private static void fullAmountGrows() {
-    JointAnnuity x = with(7, 999, 0);
+    JointAnnuity x = Desks.with(7, 999, 0);
     x.setCap(0, 100);
     x.setInflation(0, 100);
     x.setInflation(1, 15);
@@ -497,7 +485,7 @@ public final class PromisesTest {
     Check.same("15 rounded down", x.fullAmount(0, 19), 1098);
     Check.same("15 rounded down again", x.fullAmount(0, 31), 1114);
     Check.same("15 to the end", x.fullAmount(0, 239), 1114);
-    JointAnnuity y = with(0, 100000, 0);
+    JointAnnuity y = Desks.with(0, 100000, 0);
     y.setCap(0, 200);
     int due = 100000;
     for (int year = 0; year < 20; year++) {
@@ -513,7 +501,7 @@ public final class PromisesTest {
   // Promise 16
 
   private static void carryCarries() {
-    JointAnnuity x = with(3, 1000, 0);
+    JointAnnuity x = Desks.with(3, 1000, 0);
     x.setCap(0, 40);
     x.setInflation(0, 70);
     x.setInflation(1, -50);
@@ -529,7 +517,7 @@ public final class PromisesTest {
     Check.same("16 all used", x.carry(0, 51), 0);
     Check.same("16 carried", x.fullAmount(0, 51), 1124);
     Check.same("16 to the end", x.carry(0, 239), 0);
-    JointAnnuity y = with(0, 1000, 0);
+    JointAnnuity y = Desks.with(0, 1000, 0);
     for (int year = 0; year < 20; year++) {
       y.setInflation(year, -100);
     }
@@ -539,9 +527,9 @@ public final class PromisesTest {
   // Promise 17
 
   private static void entitledByWhoIsAlive() {
-    JointAnnuity x = with(1, 1000, 3);
+    JointAnnuity x = Desks.with(1, 1000, 3);
     x.setSurvivor(0, 60, true);
-    runTo(x, 9);
+    Desks.runTo(x, 9);
     Check.same("17 ahead of the start", x.entitled(0, 0), 0);
     x.die(0, 0, 0);
     Check.same("17 guaranteed, first month", x.entitled(0, 1), 1000);
@@ -553,7 +541,7 @@ public final class PromisesTest {
     x.takeBack(0, 0);
     Check.same("17 life 0 alone, steps", x.entitled(0, 6), 600);
     Check.same("17 both alive", x.entitled(0, 5), 1000);
-    JointAnnuity y = with(0, 1000, 0);
+    JointAnnuity y = Desks.with(0, 1000, 0);
     y.setSurvivor(0, 60, false);
     y.protect(0, 5000, 100);
     y.die(0, 1, 0);
@@ -568,7 +556,7 @@ public final class PromisesTest {
   // Promise 18
 
   private static void entitledUpToSums() {
-    JointAnnuity x = with(2, 1000, 0);
+    JointAnnuity x = Desks.with(2, 1000, 0);
     x.setCap(0, 50);
     x.protect(0, 20000, 50);
     x.setInflation(0, 50);
@@ -576,7 +564,7 @@ public final class PromisesTest {
     Check.same("18 the start", x.entitledUpTo(0, 2), 1000);
     Check.same("18 a year", x.entitledUpTo(0, 13), 12000);
     Check.same("18 with the increase", x.entitledUpTo(0, 14), 13050);
-    runTo(x, 5);
+    Desks.runTo(x, 5);
     x.die(0, 0, 3);
     x.die(0, 1, 4);
     Check.same("18 ahead of the protection", x.entitledUpTo(0, 4), 3000);
@@ -587,10 +575,10 @@ public final class PromisesTest {
   // Promise 19
 
   private static void protectionIsFound() {
-    JointAnnuity x = with(0, 1000, 0);
+    JointAnnuity x = Desks.with(0, 1000, 0);
     x.setSurvivor(0, 50, true);
     x.protect(0, 12345, 99);
-    runTo(x, 8);
+    Desks.runTo(x, 8);
     Check.same("19 none is told", x.protection(0), 0);
     x.die(0, 0, 1);
     Check.same("19 one is told", x.protection(0), 0);
@@ -608,20 +596,20 @@ public final class PromisesTest {
   }
 
   private static void protectionWaits() {
-    JointAnnuity x = with(5, 1000, 4);
+    JointAnnuity x = Desks.with(5, 1000, 4);
     x.protect(0, 10000, 100);
     x.die(0, 0, 0);
     x.die(0, 1, 0);
     Check.same("19 behind the guaranteed term", x.protection(0), 6000);
     Check.same("19 the term's last month", x.entitled(0, 8), 1000);
     Check.same("19 behind the guaranteed term", x.entitled(0, 9), 6000);
-    JointAnnuity y = with(5, 1000, 0);
+    JointAnnuity y = Desks.with(5, 1000, 0);
     y.protect(0, 10000, 100);
     y.die(0, 0, 0);
     y.die(0, 1, 0);
     Check.same("19 not ahead of the start", y.entitled(0, 4), 0);
     Check.same("19 in the start", y.entitled(0, 5), 10000);
-    JointAnnuity z = with(100, 1, 140);
+    JointAnnuity z = Desks.with(100, 1, 140);
     z.protect(0, 10000, 100);
     z.die(0, 0, 0);
     z.die(0, 1, 0);
@@ -633,7 +621,7 @@ public final class PromisesTest {
     z.die(1, 1, 0);
     Check.same("19 in the last month", z.protection(1), 9861);
     Check.same("19 in the last month", z.entitled(1, 239), 9861);
-    runTo(z, 240);
+    Desks.runTo(z, 240);
     z.takeBack(1, 1);
     z.die(1, 1, 239);
     Check.same("19 death in the last month", z.protection(1), 0);
@@ -645,7 +633,7 @@ public final class PromisesTest {
   // Promises 15 to 18, and that a call that throws changes nothing
 
   private static void queriesRefuse() {
-    JointAnnuity x = with(0, 1000, 0);
+    JointAnnuity x = Desks.with(0, 1000, 0);
     int[] wrongMonths = {Integer.MIN_VALUE, -1, 240, Integer.MAX_VALUE};
     for (int month : wrongMonths) {
       Check.badArgument("15 month " + month, () -> x.fullAmount(0, month));
@@ -690,13 +678,13 @@ public final class PromisesTest {
   }
 
   private static JointAnnuity busy() {
-    JointAnnuity x = with(0, 1000, 2);
+    JointAnnuity x = Desks.with(0, 1000, 2);
     x.setSurvivor(0, 50, true);
     x.setCap(0, 20);
     x.protect(0, 50000, 80);
     x.add(9, 300, 0);
     x.setInflation(0, 30);
-    runTo(x, 6);
+    Desks.runTo(x, 6);
     x.die(0, 0, 3);
     x.die(0, 1, 4);
     return x;
@@ -722,7 +710,7 @@ public final class PromisesTest {
     JointAnnuity v = busy();
     unchangedBy(v, "paid", () -> v.paid(0, 6));
     JointAnnuity w = busy();
-    runTo(w, 240);
+    Desks.runTo(w, 240);
     unchangedBy(w, "run", () -> w.run());
   }
 }
