@@ -8,25 +8,30 @@ import java.util.List;
 
 /** The class has the document's face and nothing else that can be seen from outside. */
 public final class FaceTest {
+  private static final String INDEX = " IndexOutOfBoundsException";
+  private static final String ARGUMENT = " IllegalArgumentException";
+  private static final String STATE = " IllegalStateException";
+
+  /** Each method with the exceptions that it declares, in the document's order. */
   private static final String[] FACE = {
-    "int add(int,int,int)",
-    "void setSurvivor(int,int,boolean)",
-    "void setCap(int,int)",
-    "void protect(int,int,int)",
-    "int setInflation(int,int)",
-    "void die(int,int,int)",
-    "int takeBack(int,int)",
-    "long run()",
+    "int add(int,int,int)" + ARGUMENT + STATE,
+    "void setSurvivor(int,int,boolean)" + INDEX + ARGUMENT + STATE,
+    "void setCap(int,int)" + INDEX + ARGUMENT + STATE,
+    "void protect(int,int,int)" + INDEX + ARGUMENT + STATE,
+    "int setInflation(int,int)" + ARGUMENT,
+    "void die(int,int,int)" + INDEX + ARGUMENT + STATE,
+    "int takeBack(int,int)" + INDEX + ARGUMENT + STATE,
+    "long run()" + STATE,
     "int month()",
-    "long giveBack(int,int)",
-    "long paid(int,int)",
-    "long paidInAll(int)",
-    "long owes(int)",
-    "int fullAmount(int,int)",
-    "int carry(int,int)",
-    "long entitled(int,int)",
-    "long entitledUpTo(int,int)",
-    "long protection(int)",
+    "long giveBack(int,int)" + INDEX + ARGUMENT + STATE,
+    "long paid(int,int)" + INDEX + ARGUMENT,
+    "long paidInAll(int)" + INDEX,
+    "long owes(int)" + INDEX,
+    "int fullAmount(int,int)" + INDEX + ARGUMENT,
+    "int carry(int,int)" + INDEX + ARGUMENT,
+    "long entitled(int,int)" + INDEX + ARGUMENT,
+    "long entitledUpTo(int,int)" + INDEX + ARGUMENT,
+    "long protection(int)" + INDEX,
   };
 
   public static void main(String[] args) {
@@ -63,6 +68,10 @@ public final class FaceTest {
       text.append(between).append(type.getName());
       between = ",";
     }
-    return text.append(')').toString();
+    text.append(')');
+    for (Class<?> thrown : method.getExceptionTypes()) {
+      text.append(' ').append(thrown.getSimpleName());
+    }
+    return text.toString();
   }
 }
